@@ -383,7 +383,17 @@ public final class SetRepairs {
             return NONE;
         }
         trial.copyFrom(desk);
-        return daysUntilDone(trial, set);
+        for (int days = 1; days <= FARTHEST_DAYS_TOLD; days++) {
+            // Stock grows by orders alone while only days pass: without one the set waits forever.
+            if (trial.sets.state[set] == APPROVED && trial.store.orders == 0) {
+                return NONE;
+            }
+            trial.passDay();
+            if (trial.sets.state[set] == DONE) {
+                return days;
+            }
+        }
+        return NONE;
     }
 
     public float meanDays() {
@@ -461,20 +471,6 @@ public final class SetRepairs {
             }
         }
         return true;
-    }
-
-    private static int daysUntilDone(Desk target, int set) {
-        for (int days = 1; days <= FARTHEST_DAYS_TOLD; days++) {
-            // Stock grows by orders alone while only days pass: without one the set waits forever.
-            if (target.sets.state[set] == APPROVED && target.store.orders == 0) {
-                return NONE;
-            }
-            target.passDay();
-            if (target.sets.state[set] == DONE) {
-                return days;
-            }
-        }
-        return NONE;
     }
 
     /** All that undo and the snapshot give back. */

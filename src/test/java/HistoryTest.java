@@ -7,8 +7,10 @@ public final class HistoryTest {
         promise16EachAct();
         promise16NoActs();
         promise16Everything();
+        promise16Fees();
         promise17Keep();
         promise18Restore();
+        promise18OtherSets();
         promise18IsAnAct();
         CHECK.end();
     }
@@ -146,6 +148,20 @@ public final class HistoryTest {
         CHECK.due("part(3, 4)", x.part(3, 4), 0);
     }
 
+    private static void promise16Fees() {
+        CHECK.promise("promise 16");
+        SetRepairs x = Desks.oneDone();
+        x.setNumber(3, 400);
+        x.pass(60);
+        x.collect(0);
+        CHECK.due("count(12)", x.count(12), 9140);
+        CHECK.due("count(13)", x.count(13), 1351);
+        x.undo();
+        CHECK.due("count(12) after undo", x.count(12), 0);
+        CHECK.due("count(13) after undo", x.count(13), 0);
+        CHECK.due("collect(0) again", x.collect(0), 10491);
+    }
+
     private static void promise17Keep() {
         CHECK.promise("promise 17");
         SetRepairs x = new SetRepairs();
@@ -199,6 +215,23 @@ public final class HistoryTest {
             x.pass(9);
             CHECK.due("part(2, 2)", x.part(2, 2), 3);
         }
+    }
+
+    private static void promise18OtherSets() {
+        CHECK.promise("promise 18");
+        SetRepairs x = new SetRepairs();
+        x.pass(2);
+        x.come(3);
+        x.keep();
+        x.undo();
+        x.undo();
+        CHECK.due("come(1)", x.come(1), 0);
+        CHECK.due("come(2)", x.come(2), 1);
+        CHECK.due("restore()", x.restore(), 2);
+        CHECK.due("set(0, 0)", x.set(0, 0), 3);
+        CHECK.due("set(0, 1)", x.set(0, 1), 2);
+        CHECK.due("set(1, 0)", x.set(1, 0), SetRepairs.UNKNOWN);
+        CHECK.due("count(1)", x.count(1), 1);
     }
 
     private static void promise18IsAnAct() {

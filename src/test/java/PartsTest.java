@@ -1,3 +1,5 @@
+import java.util.Arrays;
+
 /** Promises 5, 6, 21 and 22: order, put, part, costOf. */
 public final class PartsTest {
     private static final Check CHECK = new Check("PartsTest");
@@ -13,6 +15,7 @@ public final class PartsTest {
         promise21Wrong();
         promise21Numbers();
         promise21Lacking();
+        promise21LackingOfAll();
         promise22Costs();
         promise22Floats();
         CHECK.end();
@@ -218,6 +221,17 @@ public final class PartsTest {
         x.undo();
         x.put(2, 1);
         CHECK.due("part(2, 5) without orders", x.part(2, 5), 3 - 1);
+    }
+
+    private static void promise21LackingOfAll() {
+        CHECK.promise("promise 21");
+        int[] faults = new int[20];
+        Arrays.fill(faults, 2);
+        SetRepairs x = Desks.approved(faults);
+        CHECK.due("part(2, 5) for 20 sets", x.part(2, 5), 40);
+        x.put(2, 9);
+        CHECK.due("part(2, 5) for 16 sets, one part there", x.part(2, 5), 31);
+        CHECK.due("part(2, 3)", x.part(2, 3), 8);
     }
 
     private static void promise22Costs() {

@@ -58,6 +58,9 @@ public final class SetsTest {
         }
         CHECK.due("come(0) at 20", x.come(0), SetRepairs.FULL);
         CHECK.due("come(5) at 20", x.come(5), SetRepairs.UNKNOWN);
+        CHECK.due("undo()", x.undo(), 3);
+        CHECK.due("count(1) after undo", x.count(1), 19);
+        CHECK.due("come(4) again", x.come(4), 19);
         x.estimate(3);
         x.answer(3, false);
         x.collect(3);
