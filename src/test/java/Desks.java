@@ -29,6 +29,43 @@ final class Desks {
         return x;
     }
 
+    /** A new desk at the last day, 9999. */
+    static SetRepairs lastDay() {
+        SetRepairs x = new SetRepairs();
+        for (int i = 0; i < 166; i++) {
+            x.pass(60);
+        }
+        x.pass(39);
+        return x;
+    }
+
+    /** Set 0, with fault 0, is in this state; the day is 0, or 1 where it was done, or 2 where it was sold. */
+    static SetRepairs inState(int state) {
+        SetRepairs x = new SetRepairs();
+        x.come(0);
+        if (state >= 1) {
+            x.estimate(0);
+        }
+        if (state == 5) {
+            x.answer(0, false);
+        } else if (state >= 2) {
+            x.answer(0, true);
+        }
+        if (state == 3 || state == 4 || state >= 6) {
+            x.put(0, 1);
+        }
+        if (state == 4 || state >= 6) {
+            x.pass(1);
+        }
+        if (state == 6) {
+            x.collect(0);
+        } else if (state == 7) {
+            x.setNumber(3, 1);
+            x.pass(1);
+        }
+        return x;
+    }
+
     static void typeAll(SetRepairs x, String text) {
         for (int i = 0; i < text.length(); i++) {
             x.type(text.charAt(i));
