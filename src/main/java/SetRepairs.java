@@ -1,5 +1,3 @@
-import java.util.Arrays;
-
 /** A desk that repairs electronic sets. The document's promises tell what each call answers. */
 public final class SetRepairs {
     public static final int UNKNOWN = -1;

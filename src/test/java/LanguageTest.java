@@ -5,12 +5,14 @@ import java.lang.reflect.Method;
 import java.lang.reflect.Modifier;
 import java.nio.file.Files;
 import java.nio.file.Path;
+import java.util.ArrayList;
+import java.util.List;
 import java.util.Set;
 import java.util.TreeSet;
 import java.util.regex.Matcher;
 import java.util.regex.Pattern;
 
-/** What LANGUAGE.md asks of the source and of the face, and that calls make no objects. */
+/** What LANGUAGE.md asks of the source, its sizes and the face, and that calls make no objects. */
 public final class LanguageTest {
     private static final Check CHECK = new Check("LanguageTest");
     private static final String SOURCE = "src/main/java/SetRepairs.java";
@@ -28,7 +30,7 @@ public final class LanguageTest {
         "\\bcatch\\b", "\\btry\\b", "\\bthrow\\b", "\\bfinally\\b", "->", "::", "\\bsynchronized\\b", "\\bassert\\b",
         "\\bpackage\\b", "\\bdouble\\b", "\\bstatic\\s*\\{", "\\bFloat\\b", "\\bDouble\\b", "\\bSystem\\.(?!arraycopy)",
         "\\bThread\\b", "\\bObject\\b", "Exact\\(", "\\bvar\\b", "\"", "\\bextends\\b", "\\bprotected\\b",
-        "\\bstatic final (float|double|String)", "\\bimport (?!java\\.util\\.Arrays;)",
+        "\\bstatic final (float|double|String)", "\\bimport\\b",
     };
 
     public static void main(String[] args) throws Exception {
@@ -37,6 +39,7 @@ public final class LanguageTest {
         constants();
         CHECK.promise("the source");
         source();
+        sizes();
         CHECK.promise("the room");
         callsMakeNoObjects();
         CHECK.end();
@@ -107,6 +110,54 @@ public final class LanguageTest {
             CHECK.dueTrue("the source has " + forbidden, !matcher.find());
         }
         CHECK.dueTrue("a sign beyond 127", code.chars().allMatch(sign -> sign < 128));
+    }
+
+    /** The sizes of rule 11, and the names of rule 1 in the classes inside too. */
+    private static void sizes() throws Exception {
+        List<Class<?>> types = new ArrayList<>(List.of(SetRepairs.class.getDeclaredClasses()));
+        CHECK.dueTrue("more than 11 classes inside", types.size() <= 11);
+        types.add(SetRepairs.class);
+        for (Class<?> type : types) {
+            int fields = 0;
+            for (Field field : type.getDeclaredFields()) {
+                fields += Modifier.isStatic(field.getModifiers()) ? 0 : 1;
+            }
+            CHECK.dueTrue(type + " has " + fields + " fields", fields <= 20);
+            for (Method method : type.getDeclaredMethods()) {
+                CHECK.dueTrue("more than 7 parameters: " + method, method.getParameterCount() <= 7);
+                boolean isPrivate = Modifier.isPrivate(method.getModifiers());
+                CHECK.dueTrue("bears a public name: " + method, !isPrivate || !isPublicName(method.getName()));
+            }
+        }
+        methodsAreShort();
+    }
+
+    private static boolean isPublicName(String name) {
+        for (String method : METHODS) {
+            if (method.contains(" " + name + "(")) {
+                return true;
+            }
+        }
+        return false;
+    }
+
+    /** A method begins with "{" behind its parameters, and ends with "}" as far in as it began. */
+    private static void methodsAreShort() throws Exception {
+        List<String> lines = Files.readAllLines(Path.of(SOURCE));
+        Pattern begins = Pattern.compile("( {4}| {8})(?! |if |for |while |switch |do )[\\w\\[\\] ]+\\(.*\\) \\{");
+        int methods = 0;
+        for (int i = 0; i < lines.size(); i++) {
+            Matcher matcher = begins.matcher(lines.get(i));
+            if (matcher.matches()) {
+                int end = i;
+                while (end < lines.size() && !lines.get(end).equals(matcher.group(1) + "}")) {
+                    end++;
+                }
+                methods++;
+                CHECK.dueTrue((end - i + 1) + " lines: " + lines.get(i), end - i + 1 <= 60);
+            }
+        }
+        CHECK.dueTrue("only " + methods + " methods were found", methods >= METHODS.length);
     }
 
     /** All calls of a run live in one room: only the constructor may fill it. */
